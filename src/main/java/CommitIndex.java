@@ -904,11 +904,14 @@ public final class CommitIndex {
             common = 0L;
             tellings = 0;
             held = 0;
-            // A round takes at least one off, and none is put there twice. A round that finds
-            // only common ones on the pile is one too: the pile was not empty ahead of it.
+            // A round takes at least one off, and none is put there twice.
             for (int step = 0; step < MOST_COMMITS && pile != 0L; step++) {
                 int from = tellings;
                 tell(history);
+                // Only common ones were left: taken off as nothing, they make no round.
+                if (tellings == from) {
+                    return;
+                }
                 answer(history, from);
                 held++;
                 if (haste == 1 && isServed(history)) {

@@ -327,8 +327,7 @@ final class PlainModel {
         while (!pile.isEmpty()) {
             List<Integer> batch = new ArrayList<>();
             while (!pile.isEmpty() && batch.size() < per) {
-                int c = takeGreatest(pile, ranks);
-                if (!common.contains(c)) batch.add(c);
+                batch.add(takeGreatest(pile, ranks));
             }
             for (int c : batch) {
                 boolean yes = anyWantedReaches(c);
@@ -337,6 +336,7 @@ final class PlainModel {
                 else for (int p : parents(c)) if (!common.contains(p) && been.add(p)) pile.add(p);
             }
             roundsHeld++;
+            pile.removeAll(common);
             if (haste == 1 && wanted.stream().allMatch(w -> reached(w).stream().anyMatch(common::contains))) break;
         }
     }

@@ -56,6 +56,7 @@ public final class PromisesTest {
         sets();
         rounds();
         roundOfCommonOnes();
+        roundsOfOneTaker();
         haste();
         told();
         things();
@@ -515,8 +516,8 @@ public final class PromisesTest {
     }
 
     /**
-     * 2 and 1 are told; 0 comes on the pile for 2, and is common for 1 ahead of the next round. The
-     * pile isn't empty then, so a round takes it off, as nothing: that is how the words are read here.
+     * 2 and 1 are told; 0 comes on the pile for 2, and is common for 1 ahead of the next round. It is
+     * taken off as nothing then, and as none is told with it, that is no round.
      */
     private void roundOfCommonOnes() {
         begin("promise 21, common meanwhile");
@@ -529,7 +530,13 @@ public final class PromisesTest {
         due("second", x.told(1, 0), 1);
         due("not told", x.told(2, 0), NONE);
         due("common", x.sets(2), 0b11);
-        due("rounds", x.rounds(), 2);
+        due("rounds", x.rounds(), 1);
+        due("rounds, counted", x.count(5), 1);
+        due("digest", x.digest(), digestByCalls());
+        x.set(2, 1);
+        due("in haste", x.rounds(), 1);
+        x.want(0);
+        due("0 is wanted too", x.rounds(), 1);
         begin("promise 21, common ones do not count for per");
         grow(NONE, NONE, 0, NONE, 0, NONE, NONE, NONE);
         x.has(1);
@@ -539,7 +546,38 @@ public final class PromisesTest {
         due("2 and 1, then 3", x.told(2, 0), 3);
         due("in round 1", x.told(2, 2), 1);
         x.set(1, 1);
-        due("one by one: 2, 1, 3", x.rounds(), 4);
+        due("one by one: 2, 1, 3", x.rounds(), 3);
+        begin("promise 21, a common one ahead of one that is told");
+        grow(NONE, NONE, 0, NONE, 1, NONE, 1, NONE, NONE, NONE);
+        x.has(2);
+        x.has(3);
+        x.has(4);
+        x.want(2);
+        // 1 comes on the pile for 3, is common for 2, and has a greater rank than 4.
+        due("3 and 2, then 4", x.rounds(), 2);
+        due("told", x.count(6), 3);
+        due("4", x.told(2, 0), 4);
+        due("in round 1", x.told(2, 2), 1);
+        x.set(1, 1);
+        due("one by one", x.rounds(), 3);
+        due("told", x.count(6), 3);
+        due("in round 2", x.told(2, 2), 2);
+    }
+
+    /** Four rounds down from one that the taker has; behind them 0 is left on the pile, common for 1. */
+    private void roundsOfOneTaker() {
+        begin("promise 21, 0 is left on the pile");
+        grow(NONE, NONE, 0, NONE, 0, 1, 1, 0, 1, 2, 4, 3, 5, NONE);
+        x.has(6);
+        x.want(1);
+        int[][] rows = {{6, 0, 0}, {5, 0, 1}, {4, 0, 2}, {3, 0, 2}, {2, 0, 3}, {1, 1, 3}};
+        for (int i = 0; i < rows.length; i++) {
+            for (int what = 0; what < 3; what++) due("told " + i + ", " + what, x.told(i, what), rows[i][what]);
+        }
+        due("no more", x.told(rows.length, 0), NONE);
+        due("rounds", x.rounds(), 4);
+        due("rounds, counted", x.count(5), 4);
+        due("digest", x.digest(), digestByCalls());
     }
 
     private void haste() {
