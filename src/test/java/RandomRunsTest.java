@@ -40,6 +40,8 @@ public final class RandomRunsTest {
 
     private final Random random;
     private final boolean wild;
+    private final int oneRootIn;
+    private final int mergesOfFour;
     private final CommitIndex index = new CommitIndex();
     private final PlainModel model = new PlainModel();
     private final StringBuilder log = new StringBuilder();
@@ -47,6 +49,8 @@ public final class RandomRunsTest {
     private RandomRunsTest(int seed) {
         random = new Random(seed);
         wild = seed % 5 == 0;
+        oneRootIn = seed % 2 == 0 ? 6 : 30;
+        mergesOfFour = seed % 4;
     }
 
     public static void main(String[] args) throws ReflectiveOperationException {
@@ -100,8 +104,8 @@ public final class RandomRunsTest {
         int n = index.count(0);
         switch (kind) {
             case COMMIT: return within(0, n - 1);
-            case PARENT: return random.nextInt(8) == 0 ? -1 : within(random.nextBoolean() ? 0 : Math.max(0, n - 4), n - 1);
-            case SECOND: return random.nextInt(3) > 0 ? -1 : within(random.nextBoolean() ? 0 : Math.max(0, n - 4), n - 1);
+            case PARENT: return n == 0 || random.nextInt(oneRootIn) == 0 ? -1 : parentAmong(n);
+            case SECOND: return n < 2 || random.nextInt(4) >= mergesOfFour ? -1 : parentAmong(n);
             case THINGS: return random.nextBoolean() ? within(0, 1048575) : within(0, 7);
             case LAYER: return within(0, random.nextBoolean() ? 4 : 39);
             case SETTING: case TO_TWO: case FORM: return within(0, 2);
@@ -116,6 +120,15 @@ public final class RandomRunsTest {
             case ITEM: return within(0, 12);
             case CONTENT: return random.nextInt(4) == 0 ? random.nextInt() : within(-1, 5);
             default: throw new IllegalStateException("no such kind");
+        }
+    }
+
+    /** Near ones make long histories, early ones make many ways to the same few. */
+    private int parentAmong(int n) {
+        switch (random.nextInt(3)) {
+            case 0: return within(0, n - 1);
+            case 1: return within(0, Math.min(n - 1, 3));
+            default: return within(Math.max(0, n - 4), n - 1);
         }
     }
 
