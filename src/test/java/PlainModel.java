@@ -32,6 +32,10 @@ final class PlainModel {
 
     // ---- commits
 
+    int size() {
+        return commits.size();
+    }
+
     private boolean is(int c) {
         return 0 <= c && c < commits.size();
     }

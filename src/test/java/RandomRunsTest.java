@@ -101,7 +101,7 @@ public final class RandomRunsTest {
     }
 
     private int draw(Drawn kind) {
-        int n = index.count(0);
+        int n = model.size();
         switch (kind) {
             case COMMIT: return within(0, n - 1);
             case PARENT: return n == 0 || random.nextInt(oneRootIn) == 0 ? -1 : parentAmong(n);
