@@ -427,6 +427,22 @@ public final class BoundsTest extends Sentences {
         grow(x, 0, 1);
         due("kept: found", x.walk(39, 2), 3);
         due("kept: none is looked at", x.walk(39, 0), 0);
+        walkOfAllForty();
+    }
+
+    /** Kept are 8, 17, 26 and 35, without parents; so all forty come on the pile, and 0 is taken off last. */
+    private void walkOfAllForty() {
+        CommitIndex x = with(roots(1), 0, 9);
+        for (int c = 1; c < 40; c++) {
+            boolean isKept = (c + 1) % 9 == 0;
+            boolean isBehindKept = c % 9 == 0;
+            if (isKept) grow(x, NONE, NONE);
+            else if (isBehindKept) grow(x, c - 1, c - 2);
+            else grow(x, c - 1, NONE);
+        }
+        due("forty: looked at", x.walk(39, 0), 36);
+        due("forty: used", x.walk(39, 1), 4);
+        due("forty: found", x.walk(39, 2), 40);
     }
 
     // ---- giver and taker
